@@ -19,6 +19,7 @@ public final class PeriodsDipsTest {
         promise20DepthRefused();
         promise21Dip();
         promise21DipTies();
+        promise21DipIsTheDeepest();
         promise21DipRefused();
         promise22DipOf();
         Check.end();
@@ -62,6 +63,11 @@ public final class PeriodsDipsTest {
         x.foot(2, -60);
         // LIGHTS 100, 130, 150, 130.
         Check.dueTold(x, "with FOOTINGS", x.string(star, 3, 2), 100);
+        x.lay(star, 0, NONE);
+        x.lay(star, 3, 160);
+        x.lay(star, 4, 131);
+        // From NIGHT 1 on: PHASES 1, 0, 1, 0; by PHASES 150, 131, 130, 160.
+        Check.dueTold(x, "the first NIGHT behind", x.string(star, 2, 1), 19 + 1 + 30 + 10);
     }
 
     private static void promise17StringRefused() {
@@ -260,6 +266,31 @@ public final class PeriodsDipsTest {
         Check.due("two of one PHASE", x.dip(0, 8, 5), NONE);
         dueDip(x, "the latest that was found stays", 1, 1, 1, 1);
         dueDip(x, "two of two PHASES", x.dip(0, 7, 5), 1, 5, 1);
+    }
+
+    private static void promise21DipIsTheDeepest() {
+        for (int p = 2; p <= 12; p++) {
+            ChangingStars x = new ChangingStars();
+            x.star(3);
+            x.row(0);
+            for (int night = 0; night < 60; night += 1 + night % 3) {
+                x.lay(0, night, night * night * 31 % 97);
+            }
+            int bestLength = NONE;
+            int bestPhase = NONE;
+            long deepest = 0;
+            for (int l = 1; l <= 6 && l < p; l++) {
+                for (int f = 0; f < p; f++) {
+                    if (x.depth(0, p, l, f) == 1 && (bestLength == NONE || x.asked() > deepest)) {
+                        bestLength = l;
+                        bestPhase = f;
+                        deepest = x.asked();
+                    }
+                }
+            }
+            Check.due("dip(0, " + p + ", 6)", x.dip(0, p, 6), bestLength);
+            Check.due("dipOf(1) for " + p, x.dipOf(1), bestPhase);
+        }
     }
 
     private static void promise21DipRefused() {

@@ -59,6 +59,7 @@ public final class StarsRowsTest {
         }
         Check.due("a 13th star", x.star(0), ChangingStars.FULL);
         Check.due("a 13th star of no KIND", x.star(4), BAD);
+        Check.due("is(12, 0) of twelve", x.is(12, 0), BAD);
         Check.due("count(0)", x.count(0), 12);
         Check.due("count(1): ROWS missing at first", x.count(1), 0);
         Check.dueFinding(x, "at(0, 0)", 0, x.at(0, 0), NOTHING);
@@ -349,11 +350,20 @@ public final class StarsRowsTest {
         x.row(0);
         Check.dueFinding(x, "mean without lights", 0, x.mean(0), NOUGHT);
         x.lay(0, 0, 3);
+        Check.dueTold(x, "mean of one", x.mean(0), 3);
         x.lay(0, 59, 4);
         Check.dueTold(x, "mean is cut", x.mean(0), 3);
         x.foot(0, 10);
         Check.dueTold(x, "below 0 it is cut, too: -3 / 2", x.mean(0), -1);
         x.lay(0, 1, 10000);
         Check.dueTold(x, "mean of three", x.mean(0), 3332);
+        for (int night = 0; night < 60; night++) {
+            x.foot(night, 0);
+            x.lay(0, night, 10000 - night);
+        }
+        Check.dueTold(x, "mean of sixty", x.mean(0), 9970);
+        Check.dueTold(x, "level of sixty", x.levelOf(0), 9971);
+        x.lay(0, 59, NONE);
+        Check.dueTold(x, "mean of fifty-nine", x.mean(0), 9971);
     }
 }
