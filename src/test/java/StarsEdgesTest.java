@@ -343,6 +343,13 @@ public final class StarsEdgesTest {
 
     // "of all STILL STARS with a light there"
     private static void levellingStillStarsAlone() {
+        for (int kind : new int[] {0, 2, 3}) {
+            ChangingStars other = new ChangingStars();
+            Check.starWith(other, kind, 0, 500, 700);
+            Check.due("level() of KIND " + kind + " alone", other.level(), 0);
+            Check.dueTold(other, "footing(0)", other.footing(0), 0);
+            Check.dueTold(other, "footing(2)", other.footing(2), 0);
+        }
         ChangingStars x = new ChangingStars();
         x.star(1);
         for (int kind : new int[] {0, 2, 3}) {
@@ -426,6 +433,7 @@ public final class StarsEdgesTest {
         Check.due("a STILL one", x.mark(0, 1), 60);
         Check.due("a PULSING one", x.mark(1, 2), 9000);
         Check.due("a DIPPING one: every second NIGHT", x.mark(2, 3), 30);
+        Check.due("a DIPPING one as a PULSING one", x.mark(2, 2), 9000);
         x.lay(1, 0, 10000);
         x.foot(0, -10000);
         x.foot(1, 10000);
